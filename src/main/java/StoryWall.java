@@ -1104,8 +1104,8 @@ public final class StoryWall {
                 climbs[scene] = 0;
                 if (state.wall.sizeOf(scene) > 0) {
                     values[scene] = measureScene(state, scene);
-                    boolean rises = before >= 0 && values[scene] - values[before] >= rise;
-                    climbs[scene] = rises ? climbs[before] + 1 : 1;
+                    boolean rises = before != NONE && values[scene] - tensionOf(before) >= rise;
+                    climbs[scene] = rises ? climbTo(before) + 1 : 1;
                     before = scene;
                 }
             }

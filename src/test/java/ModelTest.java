@@ -62,9 +62,9 @@ public final class ModelTest {
             case 8: case 9: case 10: case 11: case 12: case 13: case 14: case 15: pin(); break;
             case 16: unpin(); break;
             case 17: swap(); break;
-            case 18: same("straighten", wall, draw(threads)); break;
-            case 19: same("insertScene", wall, drawScene()); break;
-            case 20: same("removeScene", wall, drawScene()); break;
+            case 18: actOn("straighten", draw(threads)); break;
+            case 19: actOn("insertScene", drawScene()); break;
+            case 20: actOn("removeScene", drawScene()); break;
             case 21: swapScenes(); break;
             case 22: set(); break;
             case 23: Due.is("keep()", wall.keep(), model.keep()); break;
@@ -182,13 +182,13 @@ public final class ModelTest {
         }
     }
 
-    private void same(String call, StoryWall on, int argument) {
+    private void actOn(String call, int argument) {
         int got;
         int want;
         switch (call) {
-            case "straighten": got = on.straighten(argument); want = model.straighten(argument); break;
-            case "insertScene": got = on.insertScene(argument); want = model.insertScene(argument); break;
-            default: got = on.removeScene(argument); want = model.removeScene(argument); break;
+            case "straighten": got = wall.straighten(argument); want = model.straighten(argument); break;
+            case "insertScene": got = wall.insertScene(argument); want = model.insertScene(argument); break;
+            default: got = wall.removeScene(argument); want = model.removeScene(argument); break;
         }
         Due.is(call + "(" + argument + ")", got, want);
     }
