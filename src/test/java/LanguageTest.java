@@ -2,7 +2,6 @@ import java.lang.reflect.Constructor;
 import java.lang.reflect.Field;
 import java.lang.reflect.Method;
 import java.lang.reflect.Modifier;
-import java.nio.file.Files;
 import java.nio.file.Path;
 import java.util.ArrayList;
 import java.util.Arrays;
@@ -22,20 +21,13 @@ public final class LanguageTest {
             "int thread(int,int)", "int scene(int,int)", "float tension(int)", "int broken(int)",
             "int would(int,int,int)", "int best(int)", "int count(int)", "int spanBits()");
     private static final List<String> CONSTANTS = List.of("BAD_VALUE", "FULL", "NONE", "NOT_POSSIBLE", "UNKNOWN");
-    private static final List<String> NOT_LEFT = List.of("import ", "package ", "->", "::", "catch", "throw", "finally",
-            "try ", "synchronized", "assert", "Float.", "Double.", "Character.", "System.out", "Arrays.", "Exact(",
-            "static {", "Object ", "NaN", "record ");
-    private static final int MOST_LINES = 60;
-    private static final int MOST_CLASSES = 12;
-    private static final int MOST_FIELDS = 20;
-
     private LanguageTest() {
     }
 
     public static void main(String[] args) throws Exception {
         face();
-        nestedClasses();
-        source();
+        SourceRules.look(Path.of(System.getProperty("storywall.source", "src/main/java/StoryWall.java")));
+        sameAnswers();
         room();
         Due.tell("LanguageTest");
     }
@@ -77,54 +69,9 @@ public final class LanguageTest {
         Due.is("constructors", constructors.length, 1);
     }
 
-    private static void nestedClasses() {
-        Due.part("rules 1, 5 and 11");
-        Class<?>[] inside = StoryWall.class.getDeclaredClasses();
-        Due.holds("classes " + inside.length, inside.length < MOST_CLASSES);
-        for (Class<?> type : inside) {
-            int modifiers = type.getModifiers();
-            Due.holds(type + " is private and static", isHidden(modifiers) && Modifier.isStatic(modifiers));
-            fields(type);
-        }
-        fields(StoryWall.class);
-    }
-
-    private static void fields(Class<?> type) {
-        int own = 0;
-        for (Field field : type.getDeclaredFields()) {
-            if (Modifier.isStatic(field.getModifiers())) {
-                Due.holds(field + " is final", Modifier.isFinal(field.getModifiers()));
-            } else {
-                own++;
-            }
-        }
-        Due.holds(type + " has " + own + " fields", own <= MOST_FIELDS);
-    }
-
-    private static void source() throws Exception {
-        Due.part("rules 4, 6, 10, 11 and 12");
-        String path = System.getProperty("storywall.source", "src/main/java/StoryWall.java");
-        int line = 0;
-        int start = 0;
-        for (String text : Files.readAllLines(Path.of(path))) {
-            line++;
-            String code = text.replaceAll("'.'", "").trim();
-            if (code.startsWith("/**") || code.startsWith("*") || code.startsWith("//")) {
-                continue;
-            }
-            for (String word : NOT_LEFT) {
-                Due.holds("line " + line + " is without " + word, !code.contains(word));
-            }
-            // Objects are made with a StoryWall, and never by a call.
-            Due.holds("line " + line + " makes nothing outside constructors", !code.contains("new ")
-                    || code.startsWith("private final ") || code.equals("states[index] = new State();"));
-            if (code.endsWith(") {") && text.matches(" {4}( {4})?[a-z].*")) {
-                start = line;
-            } else if (text.matches(" {4}( {4})?}")) {
-                Due.holds("line " + line + " ends a short method", line - start < MOST_LINES || start == 0);
-                start = 0;
-            }
-        }
+    private static void sameAnswers() {
+        Due.part("rule 13");
+        Due.same("the same calls", Told.all(Walls::rich), Told.all(Walls::rich));
     }
 
     /** Counts the objects and elements that are reached from one; two numbers. */

@@ -47,52 +47,6 @@ public final class PromiseTest {
         Due.tell("PromiseTest");
     }
 
-    /** A wall with a text typed. */
-    private static StoryWall typed(String text) {
-        StoryWall wall = new StoryWall();
-        write(wall, text);
-        return wall;
-    }
-
-    private static void write(StoryWall wall, String text) {
-        wall.clearText();
-        for (int i = 0; i < text.length(); i++) {
-            wall.type(text.charAt(i));
-        }
-    }
-
-    /** A wall with one card of thread 0 for each hour, one a scene from scene 0. */
-    private static StoryWall pinned(int... hours) {
-        StoryWall wall = new StoryWall();
-        for (int i = 0; i < hours.length; i++) {
-            wall.add(0, hours[i], 100, 50);
-            wall.pin(i, i, 0);
-        }
-        return wall;
-    }
-
-    /** Adds a card and pins it behind the others of a scene. */
-    private static int put(StoryWall wall, int scene, int thread, int hour, int words, int tension) {
-        int card = wall.add(thread, hour, words, tension);
-        wall.pin(card, scene, wall.scene(scene, 0));
-        return card;
-    }
-
-    private static StoryWall full() {
-        StoryWall wall = new StoryWall();
-        for (int i = 0; i < 40; i++) {
-            wall.add(0, 0, 1, 0);
-        }
-        return wall;
-    }
-
-    private static void row(String when, StoryWall wall, int scene, int... cards) {
-        Due.is(when + ": scene(" + scene + ", 0)", wall.scene(scene, 0), cards.length);
-        for (int place = 0; place < cards.length; place++) {
-            Due.is(when + ": at(" + scene + ", " + place + ")", wall.at(scene, place), cards[place]);
-        }
-    }
-
     private static void constants() {
         Due.part("constants");
         Due.is("UNKNOWN", UNKNOWN, -1);
@@ -143,7 +97,7 @@ public final class PromiseTest {
         Due.is("tension above", wall.add(0, 0, 1, 101), BAD_VALUE);
         Due.is("count(0)", wall.count(0), 2);
         Due.is("count(13)", wall.count(13), 2);
-        StoryWall full = full();
+        StoryWall full = Walls.full();
         Due.is("last", full.card(39, 2), 1);
         Due.is("one too many", full.add(0, 0, 1, 0), FULL);
         Due.is("one too many, bad value", full.add(0, 0, 1, 101), BAD_VALUE);
@@ -155,7 +109,7 @@ public final class PromiseTest {
 
     private static void addAll() {
         Due.part("promise 3");
-        StoryWall wall = typed("A0,1,0;F9999,999,100*;B12,34,56");
+        StoryWall wall = Walls.typed("A0,1,0;F9999,999,100*;B12,34,56");
         Due.is("addAll()", wall.addAll(), 3);
         int[][] cards = {{0, 0, 1, 0, 0}, {5, 9999, 999, 100, 1}, {1, 12, 34, 56, 0}};
         for (int card = 0; card < 3; card++) {
@@ -170,21 +124,21 @@ public final class PromiseTest {
         Due.is("card(4, 4)", wall.card(4, 4), 1);
         Due.is("undo()", wall.undo(), 1);
         Due.is("all are gone", wall.count(0), 3);
-        StoryWall nearlyFull = full();
+        StoryWall nearlyFull = Walls.full();
         nearlyFull.undo();
         nearlyFull.undo();
-        write(nearlyFull, "A1,1,1;A1,1,1;A1,1,1");
+        Walls.write(nearlyFull, "A1,1,1;A1,1,1;A1,1,1");
         Due.is("three for two", nearlyFull.addAll(), FULL);
         Due.is("none of them", nearlyFull.count(0), 38);
-        write(nearlyFull, "A1,1,1;A1,1,1;A1,1,1;");
+        Walls.write(nearlyFull, "A1,1,1;A1,1,1;A1,1,1;");
         Due.is("fault ahead of FULL", nearlyFull.addAll(), -121);
-        write(nearlyFull, "A1,1,1;A1,1,1");
+        Walls.write(nearlyFull, "A1,1,1;A1,1,1");
         Due.is("two for two", nearlyFull.addAll(), 2);
         Due.is("now full", nearlyFull.count(0), 40);
     }
 
     private static void fault(String text, int fault) {
-        StoryWall wall = typed(text);
+        StoryWall wall = Walls.typed(text);
         Due.is("addAll() of \"" + text + "\"", wall.addAll(), -100 - fault);
         Due.is("count(0) after \"" + text + "\"", wall.count(0), 0);
         Due.is("count(13) after \"" + text + "\"", wall.count(13), 0);
@@ -192,7 +146,7 @@ public final class PromiseTest {
     }
 
     private static void fine(String text, int cards) {
-        Due.is("addAll() of \"" + text + "\"", typed(text).addAll(), cards);
+        Due.is("addAll() of \"" + text + "\"", Walls.typed(text).addAll(), cards);
     }
 
     private static void faultsOfTexts() {
@@ -274,10 +228,10 @@ public final class PromiseTest {
         Due.is("pin(0, 15, 0)", wall.pin(0, 15, 0), 0);
         Due.is("pin(1, 15, 1)", wall.pin(1, 15, 1), 1);
         Due.is("pin(2, 15, 1)", wall.pin(2, 15, 1), 1);
-        row("put in between", wall, 15, 0, 2, 1);
+        Walls.row("put in between", wall, 15, 0, 2, 1);
         Due.is("pin(3, 0, 0)", wall.pin(3, 0, 0), 1);
         Due.is("other thread", wall.pin(8, 0, 0), 0);
-        row("put in front", wall, 0, 8, 3);
+        Walls.row("put in front", wall, 0, 8, 3);
         Due.is("place behind the end", wall.pin(4, 15, 4), BAD_VALUE);
         Due.is("place below", wall.pin(4, 15, -1), BAD_VALUE);
         Due.is("scene below", wall.pin(4, -1, 0), UNKNOWN);
@@ -288,42 +242,42 @@ public final class PromiseTest {
         wall.pin(4, 15, 3);
         wall.pin(5, 15, 4);
         wall.pin(6, 15, 5);
-        row("full row", wall, 15, 0, 2, 1, 4, 5, 6);
+        Walls.row("full row", wall, 15, 0, 2, 1, 4, 5, 6);
         Due.is("no room", wall.pin(7, 15, 0), FULL);
         Due.is("no room, ahead of the place", wall.pin(7, 15, 9), FULL);
         Due.is("there already in a full row", wall.pin(6, 15, 5), NONE);
         Due.is("place 6 of a full row", wall.pin(6, 15, 6), BAD_VALUE);
         Due.is("moved in a full row", wall.pin(6, 15, 0), 4);
-        row("moved to the front", wall, 15, 6, 0, 2, 1, 4, 5);
+        Walls.row("moved to the front", wall, 15, 6, 0, 2, 1, 4, 5);
         Due.is("moved to another scene", wall.pin(1, 0, 1), 5);
-        row("left", wall, 15, 6, 0, 2, 4, 5);
-        row("come", wall, 0, 8, 1, 3);
+        Walls.row("left", wall, 15, 6, 0, 2, 4, 5);
+        Walls.row("come", wall, 0, 8, 1, 3);
     }
 
     private static void pinWithinScene() {
         Due.part("promise 5, in its own scene");
         StoryWall wall = new StoryWall();
         for (int card = 0; card < 4; card++) {
-            put(wall, 7, 0, card, 1, 0);
+            Walls.put(wall, 7, 0, card, 1, 0);
         }
         Due.is("to the end", wall.pin(1, 7, 3), 1);
-        row("to the end", wall, 7, 0, 2, 3, 1);
+        Walls.row("to the end", wall, 7, 0, 2, 3, 1);
         Due.is("on by one", wall.pin(0, 7, 1), 2);
-        row("on by one", wall, 7, 2, 0, 3, 1);
+        Walls.row("on by one", wall, 7, 2, 0, 3, 1);
         Due.is("its place in the row that is left", wall.pin(0, 7, 1), NONE);
         Due.is("behind the row that is left", wall.pin(0, 7, 4), BAD_VALUE);
         Due.is("back by one", wall.pin(3, 7, 1), 1);
-        row("back by one", wall, 7, 2, 3, 0, 1);
+        Walls.row("back by one", wall, 7, 2, 3, 0, 1);
         Due.is("undo()", wall.undo(), 3);
-        row("undone", wall, 7, 2, 0, 3, 1);
+        Walls.row("undone", wall, 7, 2, 0, 3, 1);
     }
 
     private static void unpin() {
         Due.part("promise 6");
-        StoryWall wall = pinned(30, 20, 10);
-        put(wall, 1, 1, 5, 1, 0);
+        StoryWall wall = Walls.pinned(30, 20, 10);
+        Walls.put(wall, 1, 1, 5, 1, 0);
         Due.is("unpin(1)", wall.unpin(1), 1);
-        row("moved up", wall, 1, 3);
+        Walls.row("moved up", wall, 1, 3);
         Due.is("card(1, 5)", wall.card(1, 5), NONE);
         Due.is("in the box", wall.unpin(1), NONE);
         Due.is("other thread", wall.unpin(3), 0);
@@ -336,15 +290,15 @@ public final class PromiseTest {
 
     private static void swap() {
         Due.part("promise 7");
-        StoryWall wall = pinned(10, 20, 30);
-        put(wall, 2, 1, 9, 1, 0);
-        put(wall, 3, 1, 8, 1, 0);
+        StoryWall wall = Walls.pinned(10, 20, 30);
+        Walls.put(wall, 2, 1, 9, 1, 0);
+        Walls.put(wall, 3, 1, 8, 1, 0);
         wall.add(0, 0, 1, 0);
         Due.is("breaks of all threads", wall.swap(0, 2), 3);
-        row("exchanged", wall, 0, 2);
-        row("exchanged", wall, 2, 0, 3);
+        Walls.row("exchanged", wall, 0, 2);
+        Walls.row("exchanged", wall, 2, 0, 3);
         Due.is("in one scene", wall.swap(0, 3), 3);
-        row("in one scene", wall, 2, 3, 0);
+        Walls.row("in one scene", wall, 2, 3, 0);
         Due.is("the same", wall.swap(1, 1), BAD_VALUE);
         Due.is("the same in the box", wall.swap(5, 5), BAD_VALUE);
         Due.is("the other in the box", wall.swap(0, 5), NOT_POSSIBLE);
@@ -353,31 +307,31 @@ public final class PromiseTest {
         Due.is("swap(0, 6)", wall.swap(0, 6), UNKNOWN);
         Due.is("swap(-1, 0)", wall.swap(-1, 0), UNKNOWN);
         Due.is("undo()", wall.undo(), 3);
-        row("undone", wall, 2, 0, 3);
+        Walls.row("undone", wall, 2, 0, 3);
     }
 
     private static void straighten() {
         Due.part("promise 8");
         StoryWall wall = new StoryWall();
-        put(wall, 1, 0, 30, 1, 0);
-        put(wall, 1, 1, 1, 1, 0);
-        put(wall, 1, 0, 99, 1, 0);
-        put(wall, 4, 0, 20, 1, 0);
-        put(wall, 4, 0, 30, 1, 0);
-        put(wall, 9, 0, 10, 1, 0);
+        Walls.put(wall, 1, 0, 30, 1, 0);
+        Walls.put(wall, 1, 1, 1, 1, 0);
+        Walls.put(wall, 1, 0, 99, 1, 0);
+        Walls.put(wall, 4, 0, 20, 1, 0);
+        Walls.put(wall, 4, 0, 30, 1, 0);
+        Walls.put(wall, 9, 0, 10, 1, 0);
         wall.change(2, 3, 1);
         Due.is("straighten(0)", wall.straighten(0), 3);
-        row("flashback and other thread stay", wall, 1, 5, 1, 2);
-        row("middle", wall, 4, 3, 0);
-        row("last", wall, 9, 4);
+        Walls.row("flashback and other thread stay", wall, 1, 5, 1, 2);
+        Walls.row("middle", wall, 4, 3, 0);
+        Walls.row("last", wall, 9, 4);
         Due.is("none moves", wall.straighten(0), NONE);
         Due.is("count(3)", wall.count(3), 0);
         wall.swap(0, 4);
         Due.is("same hour, no break", wall.thread(0, 3), 0);
         Due.is("same hour by number", wall.straighten(0), 2);
-        row("same hour", wall, 9, 4);
+        Walls.row("same hour", wall, 9, 4);
         Due.is("undo()", wall.undo(), 3);
-        row("undone", wall, 9, 0);
+        Walls.row("undone", wall, 9, 0);
         Due.is("one card", wall.straighten(1), NONE);
         Due.is("no card", wall.straighten(5), NONE);
         Due.is("straighten(6)", wall.straighten(6), UNKNOWN);
@@ -386,20 +340,20 @@ public final class PromiseTest {
 
     private static void insertScene() {
         Due.part("promise 9");
-        StoryWall wall = pinned(1, 2, 3);
-        put(wall, 1, 0, 2, 1, 0);
+        StoryWall wall = Walls.pinned(1, 2, 3);
+        Walls.put(wall, 1, 0, 2, 1, 0);
         wall.pin(2, 14, 0);
         Due.is("insertScene(1)", wall.insertScene(1), 3);
-        row("stays", wall, 0, 0);
-        row("new", wall, 1);
-        row("moved on", wall, 2, 1, 3);
-        row("moved to the end", wall, 15, 2);
+        Walls.row("stays", wall, 0, 0);
+        Walls.row("new", wall, 1);
+        Walls.row("moved on", wall, 2, 1, 3);
+        Walls.row("moved to the end", wall, 15, 2);
         Due.is("no room", wall.insertScene(15), FULL);
         Due.is("no room ahead of all", wall.insertScene(0), FULL);
         Due.is("insertScene(16)", wall.insertScene(16), UNKNOWN);
         Due.is("insertScene(-1)", wall.insertScene(-1), UNKNOWN);
         Due.is("undo()", wall.undo(), 3);
-        row("undone", wall, 1, 1, 3);
+        Walls.row("undone", wall, 1, 1, 3);
         StoryWall empty = new StoryWall();
         Due.is("nothing moves", empty.insertScene(15), 0);
         Due.is("an act all the same", empty.count(13), 1);
@@ -407,14 +361,14 @@ public final class PromiseTest {
 
     private static void removeScene() {
         Due.part("promise 10");
-        StoryWall wall = pinned(1, 2, 3);
+        StoryWall wall = Walls.pinned(1, 2, 3);
         wall.pin(2, 15, 0);
         wall.pin(1, 5, 0);
         Due.is("removeScene(1)", wall.removeScene(1), 3);
-        row("stays", wall, 0, 0);
-        row("moved up", wall, 4, 1);
-        row("last moved up", wall, 14, 2);
-        row("new last", wall, 15);
+        Walls.row("stays", wall, 0, 0);
+        Walls.row("moved up", wall, 4, 1);
+        Walls.row("last moved up", wall, 14, 2);
+        Walls.row("new last", wall, 15);
         Due.is("has cards", wall.removeScene(0), NOT_POSSIBLE);
         Due.is("last with cards", wall.removeScene(14), NOT_POSSIBLE);
         Due.is("no cards behind", wall.removeScene(15), NONE);
@@ -423,20 +377,20 @@ public final class PromiseTest {
         Due.is("removeScene(16)", wall.removeScene(16), UNKNOWN);
         Due.is("removeScene(-1)", wall.removeScene(-1), UNKNOWN);
         Due.is("undo()", wall.undo(), 3);
-        row("undone", wall, 14, 2);
+        Walls.row("undone", wall, 14, 2);
     }
 
     private static void swapScenes() {
         Due.part("promise 11");
-        StoryWall wall = pinned(1, 2, 3);
-        put(wall, 0, 1, 10, 1, 0);
-        put(wall, 1, 1, 20, 1, 0);
+        StoryWall wall = Walls.pinned(1, 2, 3);
+        Walls.put(wall, 0, 1, 10, 1, 0);
+        Walls.put(wall, 1, 1, 20, 1, 0);
         Due.is("breaks of all threads", wall.swapScenes(0, 1), 2);
-        row("exchanged", wall, 0, 1, 4);
-        row("exchanged", wall, 1, 0, 3);
+        Walls.row("exchanged", wall, 0, 1, 4);
+        Walls.row("exchanged", wall, 1, 0, 3);
         Due.is("with an empty one", wall.swapScenes(0, 15), 1);
-        row("emptied", wall, 0);
-        row("come", wall, 15, 1, 4);
+        Walls.row("emptied", wall, 0);
+        Walls.row("come", wall, 15, 1, 4);
         Due.is("both empty", wall.swapScenes(5, 6), NONE);
         Due.is("same", wall.swapScenes(1, 1), BAD_VALUE);
         Due.is("same empty one", wall.swapScenes(5, 5), BAD_VALUE);
@@ -444,7 +398,7 @@ public final class PromiseTest {
         Due.is("one unknown", wall.swapScenes(-1, 0), UNKNOWN);
         Due.is("other unknown", wall.swapScenes(0, 16), UNKNOWN);
         Due.is("undo()", wall.undo(), 3);
-        row("undone", wall, 0, 1, 4);
+        Walls.row("undone", wall, 0, 1, 4);
     }
 
     private static void set() {
@@ -481,7 +435,7 @@ public final class PromiseTest {
 
     private static void clearText() {
         Due.part("promise 14");
-        StoryWall wall = typed("A1,1,1");
+        StoryWall wall = Walls.typed("A1,1,1");
         Due.is("clearText()", wall.clearText(), 6);
         Due.is("count(14)", wall.count(14), 0);
         Due.is("empty", wall.clearText(), 0);
@@ -516,7 +470,7 @@ public final class PromiseTest {
     /** Errors, NONE and calls that only tell leave the history as it is. */
     private static void recordsOfActs() {
         Due.part("promise 15, what is recorded");
-        StoryWall wall = pinned(5);
+        StoryWall wall = Walls.pinned(5);
         int[] answers = {wall.add(6, 0, 1, 0), wall.addAll(), wall.change(0, 0, 5), wall.pin(0, 0, 0), wall.unpin(7),
             wall.swap(0, 0), wall.straighten(0), wall.insertScene(16), wall.removeScene(0), wall.swapScenes(1, 2),
             wall.set(0, 3), wall.restore()};
@@ -540,8 +494,8 @@ public final class PromiseTest {
         StoryWall wall = new StoryWall();
         wall.add(0, 1, 1, 0);
         Due.is("all in the box", wall.keep(), 0);
-        put(wall, 3, 0, 2, 1, 0);
-        put(wall, 3, 0, 3, 1, 0);
+        Walls.put(wall, 3, 0, 2, 1, 0);
+        Walls.put(wall, 3, 0, 3, 1, 0);
         Due.is("two on the wall", wall.keep(), 2);
         Due.is("no act", wall.count(13), 4);
         wall.unpin(1);
@@ -552,13 +506,13 @@ public final class PromiseTest {
 
     private static void restore() {
         Due.part("promise 17");
-        StoryWall wall = pinned(1, 2);
+        StoryWall wall = Walls.pinned(1, 2);
         Due.is("no snapshot", wall.restore(), NONE);
         wall.keep();
         wall.add(0, 3, 1, 0);
         wall.change(0, 0, 77);
         wall.unpin(1);
-        write(wall, "A1");
+        Walls.write(wall, "A1");
         Due.is("restore()", wall.restore(), 2);
         Due.is("count(0)", wall.count(0), 2);
         Due.is("card(0, 1)", wall.card(0, 1), 1);
@@ -578,11 +532,11 @@ public final class PromiseTest {
     private static void card() {
         Due.part("promise 18");
         StoryWall wall = new StoryWall();
-        put(wall, 2, 3, 50, 70, 80);
-        put(wall, 2, 1, 10, 1, 0);
-        put(wall, 5, 3, 20, 2, 9);
-        put(wall, 5, 3, 30, 2, 9);
-        put(wall, 8, 3, 10, 2, 9);
+        Walls.put(wall, 2, 3, 50, 70, 80);
+        Walls.put(wall, 2, 1, 10, 1, 0);
+        Walls.put(wall, 5, 3, 20, 2, 9);
+        Walls.put(wall, 5, 3, 30, 2, 9);
+        Walls.put(wall, 8, 3, 10, 2, 9);
         wall.add(3, 0, 5, 6);
         wall.change(2, 3, 1);
         int[] break3 = {3, 30, 2, 9, 0, 5, 1, 1, 3, 2};
@@ -609,9 +563,9 @@ public final class PromiseTest {
         Due.part("promise 19");
         StoryWall wall = new StoryWall();
         for (int card = 0; card < 6; card++) {
-            put(wall, 15, 0, 1, 1, 0);
+            Walls.put(wall, 15, 0, 1, 1, 0);
         }
-        row("full row", wall, 15, 0, 1, 2, 3, 4, 5);
+        Walls.row("full row", wall, 15, 0, 1, 2, 3, 4, 5);
         Due.is("at(15, 6)", wall.at(15, 6), NONE);
         Due.is("at(14, 6)", wall.at(14, 6), NONE);
         Due.is("at(14, 0)", wall.at(14, 0), NONE);
@@ -624,10 +578,10 @@ public final class PromiseTest {
     private static void thread() {
         Due.part("promise 20");
         StoryWall wall = new StoryWall();
-        put(wall, 0, 2, 300, 10, 0);
-        put(wall, 6, 2, 200, 20, 0);
-        put(wall, 7, 2, 50, 30, 0);
-        put(wall, 15, 2, 400, 40, 0);
+        Walls.put(wall, 0, 2, 300, 10, 0);
+        Walls.put(wall, 6, 2, 200, 20, 0);
+        Walls.put(wall, 7, 2, 50, 30, 0);
+        Walls.put(wall, 15, 2, 400, 40, 0);
         wall.change(2, 3, 1);
         wall.add(2, 7, 50, 0);
         wall.add(2, 7, 60, 0);
@@ -643,7 +597,7 @@ public final class PromiseTest {
     }
 
     private static void moves(int want, int... hours) {
-        Due.is("thread(0, 4) of " + java.util.Arrays.toString(hours), pinned(hours).thread(0, 4), want);
+        Due.is("thread(0, 4) of " + java.util.Arrays.toString(hours), Walls.pinned(hours).thread(0, 4), want);
     }
 
     private static void fewestMoves() {
@@ -656,14 +610,14 @@ public final class PromiseTest {
         moves(1, 1, 2, 0, 3);
         moves(2, 5, 6, 1, 2, 7);
         moves(3, 9, 1, 8, 2, 7, 3, 9);
-        StoryWall wall = pinned(9, 1, 2);
+        StoryWall wall = Walls.pinned(9, 1, 2);
         wall.change(0, 3, 1);
         Due.is("a flashback is not in the straight row", wall.thread(0, 4), 0);
     }
 
     private static void holes() {
         Due.part("promise 20, holes");
-        StoryWall wall = pinned(0, 100);
+        StoryWall wall = Walls.pinned(0, 100);
         Due.is("100 hours are not more than 100", wall.thread(0, 6), 0);
         wall.change(1, 0, 101);
         Due.is("101 hours are", wall.thread(0, 6), 1);
@@ -671,7 +625,7 @@ public final class PromiseTest {
         Due.is("3 scenes between are not more than 3", wall.thread(0, 5), 0);
         wall.pin(1, 5, 0);
         Due.is("4 scenes between are", wall.thread(0, 5), 1);
-        put(wall, 3, 1, 0, 1, 0);
+        Walls.put(wall, 3, 1, 0, 1, 0);
         Due.is("with cards or without", wall.thread(0, 5), 1);
         wall.change(1, 3, 1);
         Due.is("flashbacks are in the row", wall.thread(0, 5), 1);
@@ -683,7 +637,7 @@ public final class PromiseTest {
         Due.is("in one scene", wall.thread(0, 5), 0);
         wall.pin(1, 2, 0);
         Due.is("one scene between", wall.thread(0, 5), 1);
-        StoryWall back = pinned(500, 100, 150);
+        StoryWall back = Walls.pinned(500, 100, 150);
         back.set(1, 49);
         Due.is("an hour that falls is no time hole", back.thread(0, 6), 1);
     }
@@ -691,10 +645,10 @@ public final class PromiseTest {
     private static void scene() {
         Due.part("promise 21");
         StoryWall wall = new StoryWall();
-        put(wall, 1, 0, 50, 10, 10);
-        put(wall, 3, 5, 50, 20, 50);
-        put(wall, 3, 0, 40, 30, 50);
-        put(wall, 3, 0, 30, 40, 50);
+        Walls.put(wall, 1, 0, 50, 10, 10);
+        Walls.put(wall, 3, 5, 50, 20, 50);
+        Walls.put(wall, 3, 0, 40, 30, 50);
+        Walls.put(wall, 3, 0, 30, 40, 50);
         int[] due = {3, 90, 33, 0, 1, 2, 2};
         int[] hole = {0, 0, 0, 1, 0, 0, 0};
         int[] ahead = {0, 0, 0, 0, 0, 0, 0};
@@ -719,7 +673,7 @@ public final class PromiseTest {
         StoryWall wall = new StoryWall();
         int[] tensions = {10, 11, 12, 12, 20, 30, 29, 30};
         for (int i = 0; i < tensions.length; i++) {
-            put(wall, i < 4 ? i : i + 3, 0, 0, 7, tensions[i]);
+            Walls.put(wall, i < 4 ? i : i + 3, 0, 0, 7, tensions[i]);
         }
         int[] climbs = {1, 2, 3, 1, 0, 0, 0, 2, 3, 1, 2};
         for (int scene = 0; scene < climbs.length; scene++) {
@@ -741,27 +695,27 @@ public final class PromiseTest {
     private static void tension() {
         Due.part("promise 22");
         StoryWall wall = new StoryWall();
-        put(wall, 4, 0, 0, 1, 1);
-        put(wall, 4, 1, 0, 2, 0);
+        Walls.put(wall, 4, 0, 0, 1, 1);
+        Walls.put(wall, 4, 1, 0, 2, 0);
         Due.isFloat("a third", wall.tension(4), 1.0f / 3.0f);
-        put(wall, 4, 2, 0, 999, 100);
+        Walls.put(wall, 4, 2, 0, 999, 100);
         Due.isFloat("three cards", wall.tension(4), 99901.0f / 1002.0f);
         Due.isFloat("no cards", wall.tension(5), -1.0f);
         Due.isFloat("tension(16)", wall.tension(16), -1.0f);
         Due.isFloat("tension(-1)", wall.tension(-1), -1.0f);
-        put(wall, 15, 0, 0, 5, 0);
+        Walls.put(wall, 15, 0, 0, 5, 0);
         Due.isFloat("no tension", wall.tension(15), 0.0f);
         wall.change(3, 3, 1);
         wall.change(3, 2, 100);
         Due.isFloat("flashbacks count", wall.tension(15), 100.0f);
-        put(wall, 0, 0, 0, 1, 7);
+        Walls.put(wall, 0, 0, 0, 1, 7);
         Due.isFloat("one word", wall.tension(0), 7.0f);
     }
 
     private static void broken() {
         Due.part("promise 23");
-        StoryWall wall = pinned(50, 40, 60, 10, 10);
-        put(wall, 1, 1, 9, 1, 0);
+        StoryWall wall = Walls.pinned(50, 40, 60, 10, 10);
+        Walls.put(wall, 1, 1, 9, 1, 0);
         wall.add(1, 8, 1, 0);
         wall.pin(6, 2, 0);
         Due.is("broken(0)", wall.broken(0), 1);
@@ -776,9 +730,9 @@ public final class PromiseTest {
 
     private static void would() {
         Due.part("promise 24");
-        StoryWall wall = pinned(10, 30, 20);
-        put(wall, 5, 1, 9, 1, 0);
-        put(wall, 6, 1, 8, 1, 0);
+        StoryWall wall = Walls.pinned(10, 30, 20);
+        Walls.put(wall, 5, 1, 9, 1, 0);
+        Walls.put(wall, 6, 1, 8, 1, 0);
         wall.add(0, 25, 1, 0);
         Due.is("where it is", wall.would(1, 1, 0), 2);
         Due.is("behind", wall.would(1, 2, 1), 1);
@@ -797,7 +751,7 @@ public final class PromiseTest {
         Due.is("card above", wall.would(6, 0, 9), UNKNOWN);
         wall.change(0, 3, 1);
         Due.is("a flashback makes no break", wall.would(0, 9, 0), 2);
-        StoryWall one = pinned(10);
+        StoryWall one = Walls.pinned(10);
         Due.is("the only card", one.would(0, 7, 0), 0);
         one.add(0, 9, 1, 0);
         one.add(0, 10, 1, 0);
@@ -807,7 +761,7 @@ public final class PromiseTest {
         Due.is("the same hour, ahead", one.would(2, 0, 0), 0);
         StoryWall full = new StoryWall();
         for (int card = 0; card < 6; card++) {
-            put(full, 0, 0, card, 1, 0);
+            Walls.put(full, 0, 0, card, 1, 0);
         }
         full.add(0, 0, 1, 0);
         Due.is("no room", full.would(6, 0, 9), FULL);
@@ -817,7 +771,7 @@ public final class PromiseTest {
 
     private static void best() {
         Due.part("promise 25");
-        StoryWall wall = pinned(10, 30, 20);
+        StoryWall wall = Walls.pinned(10, 30, 20);
         Due.is("behind the later one", wall.best(1), 21);
         Due.is("ahead of the later one", wall.best(2), 1);
         wall.add(0, 25, 1, 0);
@@ -832,7 +786,7 @@ public final class PromiseTest {
         Due.is("nothing changed", wall.card(3, 5), NONE);
         StoryWall full = new StoryWall();
         for (int card = 0; card < 6; card++) {
-            put(full, 0, 0, 10, 1, 0);
+            Walls.put(full, 0, 0, 10, 1, 0);
         }
         full.add(0, 0, 1, 0);
         full.add(0, 10, 1, 0);
@@ -850,16 +804,16 @@ public final class PromiseTest {
     private static void count() {
         Due.part("promise 26");
         StoryWall wall = new StoryWall();
-        put(wall, 0, 0, 10, 1, 10);
-        put(wall, 1, 0, 500, 2, 20);
-        put(wall, 9, 0, 400, 3, 30);
-        put(wall, 9, 4, 900, 4, 30);
-        put(wall, 15, 4, 1, 5, 10);
+        Walls.put(wall, 0, 0, 10, 1, 10);
+        Walls.put(wall, 1, 0, 500, 2, 20);
+        Walls.put(wall, 9, 0, 400, 3, 30);
+        Walls.put(wall, 9, 4, 900, 4, 30);
+        Walls.put(wall, 15, 4, 1, 5, 10);
         wall.add(4, 1, 6, 10);
         wall.set(0, 5);
         wall.set(1, 7);
         wall.set(2, 1);
-        write(wall, "abc");
+        Walls.write(wall, "abc");
         int[] due = {6, 5, 4, 2, 1, 1, 12, 15, 3, 4, 5, 7, 1, 4, 3};
         for (int what = 0; what < due.length; what++) {
             Due.is("count(" + what + ")", wall.count(what), due[what]);
@@ -868,7 +822,7 @@ public final class PromiseTest {
         Due.is("count(-1)", wall.count(-1), BAD_VALUE);
         wall.set(0, 4);
         Due.is("thread holes of all threads", wall.count(4), 2);
-        Due.is("a climb of the first scene alone", pinned(1).count(8), 1);
+        Due.is("a climb of the first scene alone", Walls.pinned(1).count(8), 1);
         wall.change(0, 1, 100);
         Due.is("after a change", wall.count(7), 114);
     }
@@ -877,24 +831,24 @@ public final class PromiseTest {
         Due.part("promise 27");
         StoryWall wall = new StoryWall();
         Due.is("without cards", wall.spanBits(), 0);
-        put(wall, 3, 0, 0, 7, 55);
+        Walls.put(wall, 3, 0, 0, 7, 55);
         Due.is("one scene", wall.spanBits(), 0);
-        put(wall, 9, 0, 0, 3, 56);
+        Walls.put(wall, 9, 0, 0, 3, 56);
         Due.is("1", wall.spanBits(), Float.floatToIntBits(1.0f));
-        put(wall, 9, 1, 0, 4, 0);
+        Walls.put(wall, 9, 1, 0, 4, 0);
         Due.is("less", wall.spanBits(), Float.floatToIntBits(55.0f - 24.0f));
-        put(wall, 0, 2, 0, 999, 100);
+        Walls.put(wall, 0, 2, 0, 999, 100);
         Due.is("greatest less least", wall.spanBits(), Float.floatToIntBits(100.0f - 24.0f));
         wall.change(3, 3, 1);
         wall.change(2, 1, 5);
         Due.is("fractions", wall.spanBits(), Float.floatToIntBits(100.0f - 168.0f / 8.0f));
         StoryWall near = new StoryWall();
-        put(near, 0, 0, 0, 999, 0);
-        put(near, 1, 0, 0, 999, 0);
+        Walls.put(near, 0, 0, 0, 999, 0);
+        Walls.put(near, 1, 0, 0, 999, 0);
         for (int i = 0; i < 4; i++) {
-            put(near, 1, 0, 0, 999, 0);
+            Walls.put(near, 1, 0, 0, 999, 0);
         }
-        put(near, 1, 0, 0, 1, 1);
+        Walls.put(near, 1, 0, 0, 1, 1);
         Due.is("small", near.spanBits(), Float.floatToIntBits(1.0f / 4996.0f));
     }
 }
