@@ -1,5 +1,6 @@
 import java.lang.reflect.Constructor;
 import java.lang.reflect.Field;
+import java.lang.reflect.InvocationTargetException;
 import java.lang.reflect.Method;
 import java.lang.reflect.Modifier;
 import java.nio.file.Path;
@@ -10,6 +11,7 @@ import java.util.List;
 import java.util.Map;
 import java.util.Set;
 import java.util.TreeSet;
+import java.util.function.Supplier;
 
 /** What can be seen of LANGUAGE.md: the face, the words of the source, and what a run makes. */
 public final class LanguageTest {
@@ -21,12 +23,17 @@ public final class LanguageTest {
             "int thread(int,int)", "int scene(int,int)", "float tension(int)", "int broken(int)",
             "int would(int,int,int)", "int best(int)", "int count(int)", "int spanBits()");
     private static final List<String> CONSTANTS = List.of("BAD_VALUE", "FULL", "NONE", "NOT_POSSIBLE", "UNKNOWN");
+    private static final int[] EDGES = {Integer.MIN_VALUE, -6, -5, -1, 0, 1, 5, 6, 15, 16, 39, 40, 96, Integer.MAX_VALUE};
+    /** So many calls are made of one object. */
+    private static final int CALLS = 400;
+
     private LanguageTest() {
     }
 
     public static void main(String[] args) throws Exception {
         face();
         SourceRules.look(Path.of(System.getProperty("storywall.source", "src/main/java/StoryWall.java")));
+        neverThrows();
         sameAnswers();
         room();
         Due.tell("LanguageTest");
@@ -67,6 +74,47 @@ public final class LanguageTest {
         Due.holds("constants " + constants, constants.equals(new TreeSet<>(CONSTANTS)));
         Constructor<?>[] constructors = StoryWall.class.getDeclaredConstructors();
         Due.is("constructors", constructors.length, 1);
+    }
+
+    /** Every call with every mix of edges, on walls that these calls change as they go. */
+    private static void neverThrows() throws Exception {
+        List<Supplier<StoryWall>> makers = List.of(StoryWall::new, Walls::rich, Walls::full);
+        for (Method method : StoryWall.class.getDeclaredMethods()) {
+            if (isHidden(method.getModifiers())) {
+                continue;
+            }
+            Due.part("rule 7, " + method.getName() + "()");
+            for (Supplier<StoryWall> maker : makers) {
+                callWithEdges(method, maker);
+            }
+        }
+    }
+
+    private static void callWithEdges(Method method, Supplier<StoryWall> maker) throws Exception {
+        Class<?>[] types = method.getParameterTypes();
+        StoryWall wall = maker.get();
+        int mixes = 1;
+        for (int i = 0; i < types.length; i++) {
+            mixes *= EDGES.length;
+        }
+        for (int mix = 0; mix < mixes; mix++) {
+            if (mix % CALLS == 0) {
+                wall = maker.get();
+            }
+            Object[] arguments = new Object[types.length];
+            int left = mix;
+            for (int i = 0; i < types.length; i++) {
+                int edge = EDGES[left % EDGES.length];
+                left /= EDGES.length;
+                arguments[i] = types[i] == char.class ? (Object) (char) edge : (Object) edge;
+            }
+            try {
+                method.invoke(wall, arguments);
+                Due.holds("no throw", true);
+            } catch (InvocationTargetException e) {
+                Due.holds("no " + e.getCause() + " for " + Arrays.toString(arguments), false);
+            }
+        }
     }
 
     private static void sameAnswers() {

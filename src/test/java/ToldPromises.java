@@ -193,8 +193,10 @@ final class ToldPromises {
         Due.is("an empty scene", wall.at(0, 0), NONE);
         Due.is("behind six", wall.at(1, 6), NONE);
         Due.is("behind one", wall.at(2, 1), NONE);
-        Due.is("the slots of a scene ahead of another", wall.at(0, 6), NONE);
-        Due.is("at(1, 7)", wall.at(1, 7), NONE);
+        for (int place = 6; place < 20; place++) {
+            Due.is("beyond the row, scene 0, place " + place, wall.at(0, place), NONE);
+            Due.is("beyond the row, scene 1, place " + place, wall.at(1, place), NONE);
+        }
         Due.is("at(1, MAX)", wall.at(1, Integer.MAX_VALUE), NONE);
         Due.is("at(15, MAX)", wall.at(15, Integer.MAX_VALUE), NONE);
     }
@@ -526,6 +528,9 @@ final class ToldPromises {
         Due.sentence("Promise 25", "UNKNOWN (there always is room, as there are at most 40 cards).");
         Due.is("of an empty box", new StoryWall().best(0), UNKNOWN);
         Due.is("the first one beyond", Walls.boxed(1).best(1), UNKNOWN);
+        StoryWall behind = Walls.inScene(15, 0, 1, 2, 3, 4, 5);
+        behind.add(0, 9999, 1, 0);
+        Due.is("no room behind all", behind.best(6), 0);
         StoryWall wall = Walls.full();
         for (int card = 0; card < 39; card++) {
             wall.pin(card, card / 6, card % 6);

@@ -39,11 +39,13 @@ final class WallPromises {
         straightenUnknown();
         straightenNone();
         insertsScene();
+        insertsAtEachScene();
         insertSceneScene();
         insertSceneCounts();
         insertSceneUnknown();
         insertSceneFull();
         removesScene();
+        removesEachScene();
         removeSceneScene();
         removeSceneCounts();
         removeSceneUnknown();
@@ -434,6 +436,28 @@ final class WallPromises {
         Due.is("an act", last.count(13), 3);
     }
 
+    /** A wall whose scenes from one on to another have a card each; card n is in scene n. */
+    private static StoryWall oneEach(int from, int to) {
+        StoryWall wall = Walls.boxed(16);
+        for (int scene = from; scene <= to; scene++) {
+            wall.pin(scene, scene, 0);
+        }
+        return wall;
+    }
+
+    private static void insertsAtEachScene() {
+        Due.sentence("Promise 9", "Puts an empty scene in ahead of a scene; this one and those behind it move on by one;");
+        for (int scene = 0; scene < 16; scene++) {
+            StoryWall wall = oneEach(0, 14);
+            Due.is("insertScene(" + scene + ")", wall.insertScene(scene), 15);
+            for (int card = 0; card < 15; card++) {
+                int due = card < scene ? card : card + 1;
+                Due.is("scene of card " + card + " after insertScene(" + scene + ")", wall.card(card, 5), due);
+            }
+            Due.is("the empty one", wall.scene(scene, 0), 0);
+        }
+    }
+
     private static void insertSceneScene() {
         Due.sentence("Promise 9", "`scene`: 0 to 15");
         Due.range("insertScene()", scene -> Walls.pinned(1).insertScene(scene), 0, 15, 1, UNKNOWN);
@@ -484,6 +508,21 @@ final class WallPromises {
             Walls.row("moved up", all, scene, scene);
         }
         Walls.row("an empty one", all, 15);
+    }
+
+    private static void removesEachScene() {
+        Due.sentence("Promise 10", "Takes an empty scene out; those behind it move up by one, and an empty scene is the "
+                + "last one.");
+        for (int scene = 0; scene < 15; scene++) {
+            StoryWall wall = oneEach(0, 15);
+            wall.unpin(scene);
+            Due.is("removeScene(" + scene + ")", wall.removeScene(scene), 15);
+            for (int card = 0; card < 16; card++) {
+                int due = card < scene ? card : card == scene ? NONE : card - 1;
+                Due.is("scene of card " + card + " after removeScene(" + scene + ")", wall.card(card, 5), due);
+            }
+            Due.is("the last one", wall.scene(15, 0), 0);
+        }
     }
 
     private static void removeSceneScene() {
