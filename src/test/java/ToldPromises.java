@@ -435,6 +435,11 @@ final class ToldPromises {
             broken.change(2, 0, one[0]);
             Due.is("the hour " + one[0] + " between 30 and 20", broken.would(2, 1, 0), one[1]);
         }
+        broken.change(2, 3, 1);
+        Due.is("a flashback between them", broken.would(2, 1, 0), 1);
+        Due.is("a flashback behind them", broken.would(2, 15, 0), 1);
+        broken.change(1, 3, 1);
+        Due.is("no break without it", broken.would(1, 0, 0), 0);
         Due.is("nothing is pinned", wall.card(5, 5), NONE);
         Due.is("count(3)", wall.count(3), 2);
         Due.is("as pin() has it then", wall.pin(1, 15, 0), 0);
