@@ -30,6 +30,7 @@ final class WallTerms {
         noTensionWithoutCards();
         rises();
         risesAsFloats();
+        risesByEachSetting();
         climbs();
     }
 
@@ -455,6 +456,35 @@ final class WallTerms {
         Due.is("9.4 as a float, less as a double", just.scene(1, 4), 1);
         just.set(2, 941);
         Due.is("9.41", just.scene(1, 4), 0);
+        StoryWall tenth = fractions(new int[] {1, 0, 1, 0}, new int[] {3, 37, 7, 33});
+        tenth.set(2, 10);
+        Due.is("10 * 0.01f, but less than 10 / 100.0f", tenth.scene(1, 4), 0);
+        tenth.set(2, 9);
+        Due.is("more than 9 / 100.0f", tenth.scene(1, 4), 1);
+    }
+
+    /** A scene of tension 0, and one of 100 words whose tension is so many hundredths. */
+    private static StoryWall hundredths(int hundredths) {
+        StoryWall wall = Walls.tense(0);
+        int higher = hundredths % 100;
+        Walls.put(wall, 1, 0, 0, 100 - higher, hundredths / 100);
+        if (higher > 0) {
+            Walls.put(wall, 1, 0, 0, higher, hundredths / 100 + 1);
+        }
+        return wall;
+    }
+
+    /** A rise of just so many hundredths counts, whichever the setting: it is the same float then. */
+    private static void risesByEachSetting() {
+        tension("at least ((float) of the setting 2) / 100.0f.");
+        for (int setting = 0; setting <= 1000; setting++) {
+            StoryWall wall = hundredths(setting);
+            Due.isFloat("the tension of " + setting, wall.tension(1), (float) setting / 100.0f);
+            wall.set(2, setting);
+            Due.is("just " + setting, wall.scene(1, 4), 1);
+            wall.set(2, setting + 1);
+            Due.is("less than " + (setting + 1), wall.scene(1, 4), setting < 1000 ? 0 : 1);
+        }
     }
 
     private static void climbs() {
